@@ -426,13 +426,12 @@ public final class PrefixYard {
 
     // ---- blocks.
 
-    /** The base of the least or greatest whole free block of at least a size, the lowest of several; or NONE. */
     private int chosenBlock(Span in, int size, boolean least) {
         int chosen = NONE;
         int chosenRoom = 0;
         int at = in.base;
-        // From one taken span to the next the greatest block at each turn is a whole one: what
-        // lies below it is taken, or in a block that could not be doubled.
+        // In a gap between spans the greatest block that begins where the one before it ends is a
+        // whole one, so that a walk from below meets just the whole free blocks, the lowest first.
         for (int step = 0; step < ADDRESSES && at < in.end(); step++) {
             Span taker = childAt(in, at);
             if (taker != null) {
@@ -450,7 +449,7 @@ public final class PrefixYard {
         return chosen;
     }
 
-    /** The size of the greatest free block that begins at an address that no span in the span has. */
+    // Asked only of addresses that no span in the span has: just spans above can bound the block then.
     private int roomAt(Span in, int at) {
         int end = in.end();
         for (Span span : made) {
@@ -491,7 +490,7 @@ public final class PrefixYard {
         return count;
     }
 
-    /** Addresses of spans in the span are lent in those, and not in it. */
+    // Addresses of spans in a span are lent in those, and not in it.
     private int lentInItself(Span in) {
         return lentCount == 0 || hasChildren(in) ? 0 : countLent(in.base, in.end());
     }

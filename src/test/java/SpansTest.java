@@ -11,6 +11,7 @@ public final class SpansTest {
     promise6Halve();
     promise6Refused();
     promise6Alike();
+    rowAfterChanges();
     promise7SetOwner();
     promises12To16();
     CHECKS.finish();
@@ -211,6 +212,22 @@ public final class SpansTest {
     CHECKS.due("grow the outermost again", x.grow(1), 0);
     CHECKS.due("its second half is free", x.inTheWay(1, 8), 0);
     CHECKS.due("free then", x.free(1), 12);
+  }
+
+  // The row is asked for before and after each change, as it could stand from before.
+  private static void rowAfterChanges() {
+    PrefixYard x = nested();
+    CHECKS.due("row of 3 spans", x.nearestByRow(16), 2);
+    x.grow(2);
+    CHECKS.due("row of one that grew", x.nearestByRow(31), 2);
+    x.halve(2);
+    CHECKS.due("row of one that was halved", x.nearestByRow(31), 1);
+    x.remove(2);
+    CHECKS.due("row without one that was removed", x.nearestByRow(16), 1);
+    x.carve(3, 8, 0, 0);
+    CHECKS.due("row with one that was carved", x.nearestByRow(128), 4);
+    x.carveAt(3, 140, 4, 0);
+    CHECKS.due("row with one that was carved at a place", x.nearestByRow(140), 5);
   }
 
   private static void promise7SetOwner() {

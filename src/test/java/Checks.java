@@ -1,7 +1,7 @@
 import java.util.function.Consumer;
 import java.util.function.Supplier;
 
-/** What the tests share: counted comparisons, and what must be seen of an object after a call that throws. */
+/** What the tests share: counted comparisons, and that a call left everything as it was. */
 final class Checks {
   static final Class<?> NO_SUCH = IndexOutOfBoundsException.class;
   static final Class<?> BAD_ARGUMENT = IllegalArgumentException.class;
@@ -15,6 +15,15 @@ final class Checks {
     this.name = name;
   }
 
+  /** A new object with spans carved at places, each told as its parent, base, size and owner. */
+  static PrefixYard yard(int[]... spans) {
+    PrefixYard x = new PrefixYard();
+    for (int[] span : spans) {
+      x.carveAt(span[0], span[1], span[2], span[3]);
+    }
+    return x;
+  }
+
   void due(String what, Object got, Object want) {
     asked++;
     if (!got.equals(want)) {
@@ -23,11 +32,31 @@ final class Checks {
     }
   }
 
+  /** Nothing in the tree of spans is wrong at an address, told both ways. */
+  void nearestDue(String what, PrefixYard x, int address, int want) {
+    due(what + ": nearest(" + address + ")", x.nearest(address), want);
+    due(what + ": nearestByRow(" + address + ")", x.nearestByRow(address), want);
+  }
+
   /** The call throws just that exception, and the object is afterwards as one on which it was not made. */
   void refused(String what, Class<?> want, Supplier<PrefixYard> made, Consumer<PrefixYard> call) {
-    PrefixYard refusing = made.get();
-    due(what, thrownBy(() -> call.accept(refusing)), want.getName());
-    due("what stands after " + what, seen(refusing), seen(made.get()));
+    due(what, thrownBy(() -> call.accept(made.get())), want.getName());
+    unchanged(what, made, call);
+  }
+
+  /** The call throws nothing, and the object is afterwards as one on which it was not made. */
+  void onlyAnswers(String what, Supplier<PrefixYard> made, Consumer<PrefixYard> call) {
+    due(what, thrownBy(() -> call.accept(made.get())), "nothing");
+    unchanged(what, made, call);
+  }
+
+  private void unchanged(String what, Supplier<PrefixYard> made, Consumer<PrefixYard> call) {
+    Supplier<PrefixYard> called = () -> {
+      PrefixYard x = made.get();
+      thrownBy(() -> call.accept(x));
+      return x;
+    };
+    due("what stands after " + what, Looks.all(called), Looks.all(made));
   }
 
   static String thrownBy(Runnable call) {
@@ -44,34 +73,5 @@ final class Checks {
     if (asked == 0 || wrong != 0) {
       System.exit(1);
     }
-  }
-
-  // Some 250 calls, as an object is used for 512 at most; the last ones change it, so that the
-  // days of what is lent and the number of the next span are seen too.
-  private static String seen(PrefixYard x) {
-    StringBuilder all = new StringBuilder();
-    all.append(x.day()).append(' ').append(x.spans()).append(' ').append(x.lent());
-    int looked = 0;
-    for (int span = 0; span < 61; span++) {
-      boolean there = x.isThere(span);
-      all.append(there ? '+' : '-');
-      if (there && looked < 12) {
-        looked++;
-        all.append(x.base(span)).append(' ').append(x.size(span)).append(' ').append(x.parent(span));
-        all.append(' ').append(x.free(span)).append(' ').append(x.greatestFree(span));
-      }
-    }
-    for (int owner = 0; owner < 8; owner++) {
-      all.append(" o").append(x.owned(owner)).append(' ').append(x.blocks(owner));
-    }
-    for (int address = 0; address < 30; address++) {
-      boolean lent = x.isLent(address);
-      all.append(lent ? " l" : " f");
-      if (lent) {
-        all.append(x.takeBack(address));
-      }
-    }
-    all.append(" next ").append(thrownBy(() -> all.append(x.carveAt(0, 4095, 1, 7))));
-    return all.toString();
   }
 }

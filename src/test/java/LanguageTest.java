@@ -5,7 +5,11 @@ import java.lang.reflect.Modifier;
 import java.nio.charset.StandardCharsets;
 import java.nio.file.Files;
 import java.nio.file.Path;
+import java.util.ArrayList;
+import java.util.List;
+import java.util.Map;
 import java.util.Set;
+import java.util.TreeMap;
 import java.util.TreeSet;
 import java.util.regex.Matcher;
 import java.util.regex.Pattern;
@@ -22,10 +26,15 @@ public final class LanguageTest {
     CHECKS.due("rule 3: signs above 127", text.chars().filter(sign -> sign > 127).count(), 0L);
     String code = withoutComments(text);
     rule1(code);
+    rules2And3(code);
     rules4And5(code);
     rule6(code);
     rule7(code);
+    rules8And11(code);
+    rule9(code);
+    rule10(code);
     rule11(code);
+    rule12(code);
     CHECKS.finish();
   }
 
@@ -51,6 +60,12 @@ public final class LanguageTest {
     none("protected", code, "\\bprotected\\b");
   }
 
+  private static void rules2And3(String code) {
+    none("classes in methods, and anonymous ones", code, "(?m)^ {8,}[\\w ]*\\bclass\\b|new \\w+\\([^\\n]*\\) \\{");
+    none("arrays of two dimensions", code, "\\]\\s*\\[");
+    none("other types of numbers", code, "\\b(long|short|byte|char|double|float)\\b");
+  }
+
   private static void rules4And5(String code) {
     TreeSet<String> names = found(code, "\\b[A-Z][A-Za-z]*[a-z][A-Za-z]*\\b");
     names.removeAll(KNOWN);
@@ -70,11 +85,79 @@ public final class LanguageTest {
     none("no throw but of a new one with a written text", code, "\\bthrow\\b(?! new Il| new In)");
     none("no text but that", code, "throw new \\w+\\((?!\"\"\\);)");
     none("no methods of all objects", code, "\\b(equals|hashCode|toString|getClass)\\b");
+    Matcher constructors = Pattern.compile("(?ms)^( *)(?:public )?(?:PrefixYard|Span)\\([^)]*\\) \\{\\n(.*?)^\\1\\}").matcher(code);
+    int count = 0;
+    while (constructors.find()) {
+      count++;
+      none("no throw in a constructor", constructors.group(2), "\\bthrow\\b");
+      none("rule 12: no call in a constructor", constructors.group(2), "\\b(?<!new )\\w+\\(");
+    }
+    CHECKS.due("constructors looked at", count, 2);
   }
 
   private static void rule7(String code) {
     none("a divisor but a number", code, "[/%]=?+(?! ?\\d)[^\n]*");
     none("casts", code, "\\((int|long|short|byte|char|Span)\\)");
+  }
+
+  // What each method calls, of those that stand in the file.
+  private static Map<String, TreeSet<String>> calls(String code) {
+    Map<String, String> bodies = new TreeMap<>();
+    Matcher matcher = Pattern.compile(
+        "(?ms)^( {4}| {8})(?:(?:public|private|static) )*\\w+ (\\w+)\\([^)]*\\)[^;{}]*\\{\\n(.*?)^\\1\\}").matcher(code);
+    while (matcher.find()) {
+      CHECKS.due("one method of the name " + matcher.group(2), bodies.put(matcher.group(2), matcher.group(3)) == null, true);
+    }
+    Map<String, TreeSet<String>> calls = new TreeMap<>();
+    for (Map.Entry<String, String> body : bodies.entrySet()) {
+      TreeSet<String> called = found(body.getValue(), "\\b\\w+(?=\\()");
+      called.retainAll(bodies.keySet());
+      calls.put(body.getKey(), called);
+    }
+    return calls;
+  }
+
+  private static int deepest(Map<String, TreeSet<String>> calls, String from, List<String> open) {
+    if (open.contains(from)) {
+      return 1000;
+    }
+    open.add(from);
+    int deepest = 0;
+    for (String called : calls.get(from)) {
+      deepest = Math.max(deepest, deepest(calls, called, open));
+    }
+    open.remove(from);
+    return deepest + 1;
+  }
+
+  private static void rules8And11(String code) {
+    Map<String, TreeSet<String>> calls = calls(code);
+    for (Method method : PrefixYard.class.getDeclaredMethods()) {
+      CHECKS.due("found " + method.getName(), calls.containsKey(method.getName()), true);
+    }
+    for (String method : calls.keySet()) {
+      CHECKS.due("calls without recursion, at most 8 deep, of " + method,
+          deepest(calls, method, new ArrayList<>()) <= 8, true);
+    }
+  }
+
+  // A loop over an array, or one whose own line has a bound; what is counted there is looked at by hand.
+  private static void rule9(String code) {
+    none("loops without a bound", code, "\\bdo\\b|\\b(for|while) \\((?![^\\n]*([<>]| : ))[^\\n]*");
+  }
+
+  private static void rule10(String code) {
+    none("texts joined by +", code, "\"\\s*\\+|\\+\\s*\"");
+  }
+
+  private static void rule12(String code) {
+    List<String> made = new ArrayList<>();
+    Matcher matcher = Pattern.compile("\\bnew (?!\\w+Exception\\()\\w+.").matcher(code);
+    while (matcher.find()) {
+      made.add(matcher.group());
+    }
+    CHECKS.due("what is made, in the constructor and for a carved span", made,
+        List.of("new Span(", "new Span[", "new int[", "new int[", "new Span("));
   }
 
   private static void rule11(String code) {
